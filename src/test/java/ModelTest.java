@@ -7,13 +7,15 @@ import java.util.TreeMap;
 /** Random runs of calls (of fixed seeds): SaltRow and a second program, written apart from it, answer the same. */
 public final class ModelTest {
     private static final int RUNS = 600;
+    private static final int LONG_RUNS = 30;
     private static final int CALLS = 300;
+    private static final int LONG_CALLS = 480;
 
     /** A method, how often it is called, and from where to where each number is. */
     private static final String[] CALLED = {
         "area 4 0-7 1-9", "gate 20 0-7 b", "cover 5 5-7 b", "pass 60 1-30 0-9 0-9 0-40", "pass 60 1-3 5-9 0-3 0-0",
         "skim 6 0-7", "drain 6 0-7", "pump 30 0-7 0-7 1-60", "pump 10 0-4 5-7 1-300", "family 4", "right 12 0-5 5-7 0-12",
-        "harvest 25 5-7 b", "flower 30 5-7", "wash 20 0-5", "sell 25 0-5 1-300 1-99", "sell 10 0-5 1-5 1-99",
+        "harvest 25 5-7 b", "flower 30 5-7", "wash 20 0-5", "sell 25 0-5 1-300 1-99", "sell 10 0-5 1-5 1-99", 
         "ofPond 2 0-7 0-10", "ofFamily 2 0-5 0-5", "rightOf 2 0-5 5-7", "tide 3 0-9999", "many 2 0-17",
         "meanStrength 4", "crustIn 8 5-7 0-9 0-9", "bestGates 2 1-9 0-9 0-9", "wouldBe 10 5-7 b 0-5",
         "tideOn 5 0-20 b", "digest 1"};
@@ -25,10 +27,14 @@ public final class ModelTest {
         for (int run = 0; run < RUNS && wrong < 20; run++) {
             oneRun(run, new Random(run));
         }
+        for (int run = RUNS; run < RUNS + LONG_RUNS && wrong < 20; run++) {
+            oneRun(run, new Random(run));
+        }
         for (String must : new String[] {"flower answers", "harvest answers", "sell answers -2", "sell answers", "wash answers",
             "drain answers", "crustIn answers", "crustIn answers -1", "bestGates answers", "wouldBe answers", "wouldBe answers -1",
-            "tideOn answers -1", "pump answers", "skim answers", "pass answers"}) {
-            if (SEEN.getOrDefault(must, 0) < 100) {
+            "tideOn answers -1", "pump answers", "skim answers", "pass answers", "pass answers IllegalStateException",
+            "sell for 10000 or more"}) {
+            if (SEEN.getOrDefault(must, 0) < 30) {
                 wrong++;
                 System.out.println("too seldom: " + must + ", " + SEEN.getOrDefault(must, 0) + " times");
             }
@@ -36,7 +42,7 @@ public final class ModelTest {
         if (args.length > 0) {
             System.out.println(SEEN);
         }
-        System.out.println(wrong == 0 ? RUNS + " runs are as due" : wrong + " answers are not as due");
+        System.out.println(wrong == 0 ? RUNS + LONG_RUNS + " runs are as due" : wrong + " answers are not as due");
         if (wrong != 0) {
             System.exit(1);
         }
@@ -46,15 +52,20 @@ public final class ModelTest {
         SaltRow is = new SaltRow();
         Model due = new Model();
         fill(run, random, is, due);
-        for (int k = 0; k < CALLS; k++) {
-            String[] call = CALLED[drawn(random)].split(" ");
+        for (int k = 0; k < (run >= RUNS ? LONG_CALLS : CALLS); k++) {
+            boolean isLongPass = run >= RUNS && k % 2 == 0;
+            String[] call = (isLongPass ? "pass 1 30-30 4-9 0-9 0-0" : CALLED[drawn(random)]).split(" ");
             Object[] with = arguments(call, random);
+            fit(call[0], with, run >= RUNS, due, random);
             Method method = named(SaltRow.class, call[0]);
             String got = answer(is, method, with);
             String want = answer(due, named(Model.class, call[0]), with);
             String kind = call[0] + " answers" + (want.equals("-1") || want.equals("-2") ? " " + want
                     : want.endsWith("Exception") ? " " + want : "");
             SEEN.merge(kind, 1, Integer::sum);
+            if (call[0].equals("sell") && want.length() > 4 && want.length() < 12) {
+                SEEN.merge("sell for 10000 or more", 1, Integer::sum);
+            }
             String gotAll = everything(is);
             String dueAll = everything(due);
             if (!got.equals(want) || !gotAll.equals(dueAll) || due.saltIsMissing() != 0) {
@@ -73,7 +84,7 @@ public final class ModelTest {
             return;
         }
         for (int pond = 0; pond < 8; pond++) {
-            int area = run % 4 == 1 ? 1 + random.nextInt(9) : pond < 5 ? 9 - pond : 1 + random.nextInt(3);
+            int area = run >= RUNS ? 9 : run % 4 == 1 ? 1 + random.nextInt(9) : pond < 5 ? 9 - pond : 1 + random.nextInt(3);
             is.area(pond, area);
             due.area(pond, area);
             boolean open = random.nextInt(8) > 0;
@@ -119,6 +130,16 @@ public final class ModelTest {
             }
         }
         return with;
+    }
+
+    /** In a long run GATES stay open; most of what is SOLD is there. */
+    private static void fit(String call, Object[] with, boolean isLong, Model due, Random random) {
+        if (call.equals("gate") && isLong) {
+            with[1] = true;
+        }
+        if (call.equals("sell") && random.nextInt(4) > 0 && (int) with[0] >= 0 && (int) with[0] < due.many(1)) {
+            with[1] = 1 + random.nextInt(1 + due.ofFamily((int) with[0], 0));
+        }
     }
 
     private static int number(int from, int to, Random random) {
