@@ -1,158 +1,13 @@
 import java.util.ArrayList;
 import java.util.List;
-import java.util.concurrent.Callable;
 
 /** Each promise of the document by itself, with answers that were worked out by hand from its words. */
-public final class PromisesTest {
+public final class PromisesTest extends Checks {
     private static final int[] WRONG_PONDS = {-1, 8, Integer.MIN_VALUE, Integer.MAX_VALUE};
     private static final int[] WRONG_PANS = {4, 8, 0, -1, Integer.MIN_VALUE, Integer.MAX_VALUE};
-    private static final String INDEX = "IndexOutOfBoundsException";
-    private static final String ARGUMENT = "IllegalArgumentException";
-    private static final String STATE = "IllegalStateException";
-
-    private static int wrong = 0;
-    private static int asked = 0;
 
     public static void main(String[] args) {
-        promise1NewObject();
-        promise2Area();
-        promise3Gate();
-        promise4Cover();
-        promise5SeaComesIn();
-        promise5BrineFlowsOn();
-        promise5RainFallsAndMixes();
-        promise5PondsDry();
-        promise5MineralsFall();
-        promise5CrustDissolves();
-        promise5WrongInputsAndLimit();
-        promise6Skim();
-        promise7Drain();
-        promise8Pump();
-        promise9Family();
-        promise10Right();
-        promise11Harvest();
-        promise12Flower();
-        promise13Wash();
-        promise14Sell();
-        promise15OfPond();
-        promise16OfFamily();
-        promise17RightOf();
-        promise18Tide();
-        promise19Many();
-        promise20MeanStrength();
-        promise21CrustIn();
-        promise22BestGates();
-        promise23WouldBe();
-        promise24TideOn();
-        promise25Digest();
-        System.out.println(wrong == 0 ? asked + " answers are as due" : wrong + " of " + asked + " answers are not as due");
-        if (wrong != 0) {
-            System.exit(1);
-        }
-    }
-
-    // ---- the ways to ask
-
-    private static void due(String what, Callable<?> call, Object want) {
-        asked++;
-        String got = answer(call);
-        if (!got.equals(String.valueOf(want))) {
-            wrong++;
-            System.out.println(what + " answered " + got + ", due is " + want);
-        }
-    }
-
-    private static String answer(Callable<?> call) {
-        try {
-            return String.valueOf(call.call());
-        } catch (Exception e) {
-            return e.getClass().getSimpleName();
-        }
-    }
-
-    /** The call throws so, and the object answers all as before. */
-    private static void refused(String what, SaltRow x, Callable<?> call, String exception) {
-        String before = everything(x);
-        due(what, call, exception);
-        due(what + " changes nothing", () -> everything(x), before);
-    }
-
-    private static void unchanged(String what, SaltRow x, Callable<?> call, Object want) {
-        refused(what, x, call, String.valueOf(want));
-    }
-
-    private static String everything(SaltRow x) {
-        StringBuilder all = new StringBuilder();
-        for (int what = 0; what <= 17; what++) {
-            all.append(x.many(what)).append(' ');
-        }
-        for (int pond = 0; pond < 8; pond++) {
-            all.append('|').append(pond(x, pond));
-        }
-        for (int k = 0; k < x.many(1); k++) {
-            all.append('|').append(family(x, k));
-            for (int pan = 5; pan < 8; pan++) {
-                all.append(' ').append(x.rightOf(k, pan));
-            }
-        }
-        return all.append(answer(() -> x.crustIn(5, 9, 9))).toString();
-    }
-
-    private static String pond(SaltRow x, int pond) {
-        return values(11, what -> x.ofPond(pond, what));
-    }
-
-    private static String family(SaltRow x, int family) {
-        return values(6, what -> x.ofFamily(family, what));
-    }
-
-    private interface Asked {
-        int of(int what);
-    }
-
-    private static String values(int count, Asked asked) {
-        List<Integer> all = new ArrayList<>();
-        for (int what = 0; what < count; what++) {
-            all.add(asked.of(what));
-        }
-        return all.toString();
-    }
-
-    // ---- rows to begin with
-
-    /** On DAY 1 the POND 0 has 60 of BRINE, with 1800 of SALT, 120 of GYPSUM, 360 of BITTER; its GATE is shut. */
-    private static SaltRow withSea() {
-        SaltRow x = new SaltRow();
-        letSeaIn(x);
-        return x;
-    }
-
-    private static void letSeaIn(SaltRow x) {
-        x.gate(0, true);
-        x.pass(1, 0, 0, 0);
-        x.gate(0, false);
-    }
-
-    /**
-     * The PAN 5 has this AREA, and all the BRINE of withSea() dried there to 1: CRUST of SALT 1500 and of DIRT 272
-     * (112 of GYPSUM and 160 of BITTER); BRINE 1 with 300, 8 and 200. It is DAY 61, the latest had SUN and WIND of 9.
-     * The TIDE is 4; that of DAY 65 is 4, of 66 is 5, of 74 is 5, of 75 is 4.
-     */
-    private static SaltRow withCrust(int area) {
-        SaltRow x = new SaltRow();
-        x.area(5, area);
-        letSeaIn(x);
-        x.pump(0, 5, 60);
-        x.pass(30, 9, 9, 0);
-        x.pass(30, 9, 9, 0);
-        return x;
-    }
-
-    private static SaltRow withFamily(int area, int twelfths) {
-        SaltRow x = withCrust(area);
-        x.family();
-        x.right(0, 5, twelfths);
-        return x;
+        runAll(PromisesTest.class);
     }
 
     // ---- the promises
@@ -628,11 +483,10 @@ public final class PromisesTest {
         refused("12: STRENGTH below 55", x, () -> x.flower(5), STATE);
         SaltRow y = withSea();
         refused("12: SUN and WIND of 0 at first", y, () -> y.flower(5), STATE);
-        strengthAtItsLimit();
     }
 
     /** FLOWERS of 3 leave 273, 270 ..; STRENGTH is 55 down to a sum of 275, 54 with 274. */
-    private static void strengthAtItsLimit() {
+    private static void promise12StrengthAtItsLimit() {
         SaltRow x = withFamily(1, 12);
         x.pass(1, 9, 0, 0);
         int taken = 0;
@@ -710,10 +564,9 @@ public final class PromisesTest {
             refused("14: PRICE of " + price, x, () -> x.sell(0, 1, price), ARGUMENT);
         }
         refused("14: far too much", x, () -> x.sell(0, Integer.MAX_VALUE, 99), STATE);
-        sellWhatIsHardlyPure();
     }
 
-    private static void sellWhatIsHardlyPure() {
+    private static void promise14SellWhatIsHardlyPure() {
         SaltRow x = withFamily(1, 11);
         x.harvest(5, false);
         x.wash(0);
@@ -861,7 +714,6 @@ public final class PromisesTest {
             int it = pan;
             due("21: with GATES as they are", () -> y.crustIn(it, 9, 9), crustByTrying(y.many(0), it));
         }
-        crustOnTheLastDay();
         SaltRow z = emptyOn(5000);
         for (int pond = 0; pond < 8; pond++) {
             z.gate(pond, true);
@@ -898,7 +750,7 @@ public final class PromisesTest {
     }
 
     /** The same BRINE is asked day by day: behind one DAY more it takes one DAY less, and 61 are too many. */
-    private static void crustOnTheLastDay() {
+    private static void promise21CrustOnTheLastDay() {
         SaltRow x = fullPan();
         SaltRow y = fullPan();
         int behind = 0;
@@ -958,10 +810,6 @@ public final class PromisesTest {
         return x;
     }
 
-    private interface Made {
-        SaltRow make();
-    }
-
     /** The best set of GATES, by letting the DAYS go by in a row of its own for each set. */
     private static int bestByTrying(Made made, int days, int sun, int wind) {
         int best = -1;
@@ -982,15 +830,6 @@ public final class PromisesTest {
             }
         }
         return best;
-    }
-
-    /** An empty row at this DAY. */
-    private static SaltRow emptyOn(int day) {
-        SaltRow x = new SaltRow();
-        for (int left = day; left > 0; left -= 30) {
-            x.pass(Math.min(30, left), 0, 0, 0);
-        }
-        return x;
     }
 
     private static void promise23WouldBe() {
