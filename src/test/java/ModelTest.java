@@ -1,15 +1,16 @@
 import java.lang.reflect.InvocationTargetException;
 import java.lang.reflect.Method;
+import java.util.Arrays;
 import java.util.Map;
 import java.util.Random;
 import java.util.TreeMap;
 
 /** Random runs of calls (of fixed seeds): SaltRow and a second program, written apart from it, answer the same. */
 public final class ModelTest {
-    private static final int RUNS = 600;
-    private static final int LONG_RUNS = 30;
-    private static final int CALLS = 300;
-    private static final int LONG_CALLS = 480;
+    private static final int RUNS = 1200;
+    private static final int LONG_RUNS = 100;
+    private static final int CALLS = 160;
+    private static final int LONG_CALLS = 320;
 
     /** A method, how often it is called, and from where to where each number is. */
     private static final String[] CALLED = {
@@ -19,6 +20,9 @@ public final class ModelTest {
         "ofPond 2 0-7 0-10", "ofFamily 2 0-5 0-5", "rightOf 2 0-5 5-7", "tide 3 0-9999", "many 2 0-17",
         "meanStrength 4", "crustIn 8 5-7 0-9 0-9", "bestGates 2 1-9 0-9 0-9", "wouldBe 10 5-7 b 0-5",
         "tideOn 5 0-20 b", "digest 1"};
+
+    /** What is asked behind each call of a short run. */
+    private static final String[] QUESTIONS = {"ofPond 1 0-7 1-9", "ofPond 1 5-7 0-10", "ofFamily 1 0-2 0-5", "many 1 0-17"};
 
     private static final Map<String, Integer> SEEN = new TreeMap<>();
     private static int wrong = 0;
@@ -48,34 +52,47 @@ public final class ModelTest {
         }
     }
 
+    /** No object is asked more than 512 times: some calls to fill it, those that are drawn, and all that it has at the end. */
     private static void oneRun(int run, Random random) throws Exception {
+        boolean isLong = run >= RUNS;
         SaltRow is = new SaltRow();
         Model due = new Model();
         fill(run, random, is, due);
-        for (int k = 0; k < (run >= RUNS ? LONG_CALLS : CALLS); k++) {
-            boolean isLongPass = run >= RUNS && k % 2 == 0;
-            String[] call = (isLongPass ? "pass 1 30-30 4-9 0-9 0-0" : CALLED[drawn(random)]).split(" ");
+        for (int k = 0; k < (isLong ? LONG_CALLS : CALLS); k++) {
+            String[] call = (isLong && k % 2 == 0 ? "pass 1 30-30 4-9 0-9 0-0" : CALLED[drawn(random)]).split(" ");
             Object[] with = arguments(call, random);
-            fit(call[0], with, run >= RUNS, due, random);
-            Method method = named(SaltRow.class, call[0]);
-            String got = answer(is, method, with);
-            String want = answer(due, named(Model.class, call[0]), with);
-            String kind = call[0] + " answers" + (want.equals("-1") || want.equals("-2") ? " " + want
-                    : want.endsWith("Exception") ? " " + want : "");
-            SEEN.merge(kind, 1, Integer::sum);
-            if (call[0].equals("sell") && want.length() > 4 && want.length() < 12) {
-                SEEN.merge("sell for 10000 or more", 1, Integer::sum);
+            fit(call[0], with, isLong, due, random);
+            if (!isAnsweredAsDue(call[0], with, is, due, "run " + run + ", call " + k)) {
+                return;
             }
-            String gotAll = everything(is);
-            String dueAll = everything(due);
-            if (!got.equals(want) || !gotAll.equals(dueAll) || due.saltIsMissing() != 0) {
-                wrong++;
-                System.out.println("run " + run + ", call " + k + ": " + call[0] + java.util.Arrays.toString(with)
-                        + " answered " + got + ", due is " + want + "\n  is  " + gotAll + "\n  due " + dueAll
-                        + "\n  SALT that is missing: " + due.saltIsMissing());
+            String[] question = QUESTIONS[random.nextInt(QUESTIONS.length)].split(" ");
+            if (!isLong && !isAnsweredAsDue(question[0], arguments(question, random), is, due, "run " + run + " behind " + k)) {
                 return;
             }
         }
+        String gotAll = everything(is);
+        String dueAll = everything(due);
+        if (!gotAll.equals(dueAll)) {
+            wrong++;
+            System.out.println("run " + run + ", at the end\n  is  " + gotAll + "\n  due " + dueAll);
+        }
+    }
+
+    private static boolean isAnsweredAsDue(String call, Object[] with, SaltRow is, Model due, String when) throws Exception {
+        String got = answer(is, named(SaltRow.class, call), with);
+        String want = answer(due, named(Model.class, call), with);
+        boolean isNone = want.equals("-1") || want.equals("-2") || want.endsWith("Exception");
+        SEEN.merge(call + " answers" + (isNone ? " " + want : ""), 1, Integer::sum);
+        if (call.equals("sell") && want.length() > 4 && want.length() < 12) {
+            SEEN.merge("sell for 10000 or more", 1, Integer::sum);
+        }
+        if (got.equals(want) && due.saltIsMissing() == 0) {
+            return true;
+        }
+        wrong++;
+        System.out.println(when + ": " + call + Arrays.toString(with) + " answered " + got + ", due is " + want
+                + "; SALT that is missing: " + due.saltIsMissing());
+        return false;
     }
 
     /** Most runs begin with a row in use, so that salt falls soon. */
@@ -186,7 +203,8 @@ public final class ModelTest {
         for (int k = 0; k < 88; k++) {
             all.append(x.ofPond(k / 11, k % 11)).append(' ');
         }
-        for (int k = 0; k < x.many(1) * 9; k++) {
+        int families = x.many(1);
+        for (int k = 0; k < families * 9; k++) {
             all.append(k % 9 < 6 ? x.ofFamily(k / 9, k % 9) : x.rightOf(k / 9, k % 9 - 1)).append(' ');
         }
         return all.append(x.meanStrength()).toString();
@@ -200,7 +218,8 @@ public final class ModelTest {
         for (int k = 0; k < 88; k++) {
             all.append(x.ofPond(k / 11, k % 11)).append(' ');
         }
-        for (int k = 0; k < x.many(1) * 9; k++) {
+        int families = x.many(1);
+        for (int k = 0; k < families * 9; k++) {
             all.append(k % 9 < 6 ? x.ofFamily(k / 9, k % 9) : x.rightOf(k / 9, k % 9 - 1)).append(' ');
         }
         return all.append(x.meanStrength()).toString();
