@@ -649,6 +649,72 @@ public final class EdgesTest extends Checks {
         due("all COVERS", () -> x.many(3), 224);
     }
 
+    private static void p19ManyOfAllPonds() {
+        SaltRow x = withSea();
+        x.pump(0, 7, 20);
+        x.pass(1, 9, 9, 0);
+        x.pass(1, 0, 0, 20);
+        // 40 less 6, 20 less 6; 3 of 6 of FRESH mix in each POND
+        due("BRINE", () -> x.many(14), 34 + 14 + 8 * 3);
+        due("SALT", () -> x.many(5), 1800);
+        due("FRESH", () -> x.many(15), 8 * 3);
+        SaltRow y = withSea();
+        y.pump(0, 4, 20);
+        y.pump(0, 7, 20);
+        y.pass(30, 9, 9, 0);
+        due("SALT of CRUSTS: 300, 300 and 300", () -> y.many(6), 900);
+        due("DIRT of CRUSTS: 32, 32 and 32", () -> y.many(12), 96);
+    }
+
+    private static void p19ManyOfAllFamilies() {
+        SaltRow x = withFamily(1, 4);
+        x.family();
+        x.right(1, 5, 8);
+        for (int k = 0; k < 2; k++) {
+            x.pass(1, 9, 0, 0);
+            x.flower(5);
+        }
+        due("1 and 2 each DAY, on HEAPS", () -> x.many(7), 6);
+        x.sell(0, 1, 10);
+        x.sell(1, 2, 10);
+        x.sell(1, 1, 10);
+        due("SOLD", () -> x.many(8), 4);
+        due("left on HEAPS", () -> x.many(7), 2);
+        x.wash(0);
+        x.wash(1);
+        due("LOST by both", () -> x.many(9), 2);
+    }
+
+    private static void p19ManyOfAllHarvests() {
+        SaltRow x = withCrust(1);
+        for (int k = 1; k <= 3; k++) {
+            x.harvest(5, false);
+            x.pass(1, 0, 0, 0);
+            due("the CROWN's", () -> x.many(10), 20 * k);
+            due("the CLOISTER's", () -> x.many(11), 180 * k);
+        }
+    }
+
+    private static void p19ManyThatAreEver() {
+        SaltRow x = withSea();
+        x.pass(1, 0, 0, 40);
+        x.skim(0);
+        x.skim(1);
+        due("SKIMMED", () -> x.many(16), 12);
+        x.pump(0, 1, 11);
+        x.pump(1, 0, 1);
+        due("COINS of the WORKS", () -> x.many(17), -3);
+        x.pass(5, 0, 0, 0);
+        due("TIDE of DAY 7", () -> x.tide(x.many(0)), 2);
+        int salt = x.many(5);
+        x.drain(0);
+        x.drain(1);
+        due("LOST", () -> x.many(9), salt);
+        x.gate(0, true);
+        x.pass(1, 0, 0, 0);
+        due("from the SEA", () -> x.many(4), 1800 + 30 * (30 * 3 / 4));
+    }
+
     private static void p19NoSaltIsMissing() {
         SaltRow x = withFamily(1, 11);
         x.harvest(5, false);
@@ -768,20 +834,45 @@ public final class EdgesTest extends Checks {
         unchanged("no more falls", x, () -> x.crustIn(5, 9, 9), NONE);
     }
 
+    private static void p21CrustInOfOneThatFalls() {
+        SaltRow x = mixed(1, 10, 0, 0, 1);
+        SaltRow y = mixed(1, 10, 0, 0, 1);
+        int days = daysToCrust(y, 5, 9, 9);
+        due("SALT of 1 fell", () -> y.ofPond(5, 6), 1);
+        due("behind as many DAYS", () -> x.crustIn(5, 9, 9), days);
+        SaltRow z = mixed(1, 10, 0, 0, 0);
+        due("none of 300", () -> z.crustIn(5, 9, 9), NONE);
+    }
+
     private static void p21CrustInWithoutBrine() {
         SaltRow x = new SaltRow();
         unchanged("none", x, () -> x.crustIn(5, 9, 9), NONE);
     }
 
-    private static void p21CrustInWithFreshThatIsThere() {
-        SaltRow x = dried(9, 11, 0, 0, 0);
+    /** The PAN 5 (AREA 9) had a CRUST of so many of the SEA's; RAIN took some of it back, 15 of FRESH are left. */
+    private static SaltRow rainedOn(int sea) {
+        SaltRow x = dried(9, sea, 0, 0, 0);
         x.cover(5, false);
         x.pass(1, 0, 0, 34);
-        due("15 of FRESH, a CRUST of 0", () -> x.ofPond(5, 5) * 100 + x.ofPond(5, 6), 1500);
-        SaltRow y = dried(9, 11, 0, 0, 0);
-        y.cover(5, false);
-        y.pass(1, 0, 0, 34);
-        unchanged("as DAYS go by", x, () -> x.crustIn(5, 3, 1), daysToCrust(y, 5, 3, 1));
+        return x;
+    }
+
+    private static int daysUntilItFalls(SaltRow x, int sun, int wind) {
+        for (int k = 1; k <= 60; k++) {
+            if (x.pass(1, sun, wind, 0) > 0) {
+                return k;
+            }
+        }
+        return NONE;
+    }
+
+    private static void p21CrustInWithFreshThatIsThere() {
+        for (int sea = 11; sea <= 40; sea++) {
+            SaltRow x = rainedOn(sea);
+            due("15 of FRESH", () -> x.ofPond(5, 5), 15);
+            due("SUN 3, WIND 1, with " + sea, () -> x.crustIn(5, 3, 1), daysUntilItFalls(rainedOn(sea), 3, 1));
+            due("WIND 1, with " + sea, () -> x.crustIn(5, 0, 1), daysUntilItFalls(rainedOn(sea), 0, 1));
+        }
     }
 
     private static void p21CrustInWithGatesAsTheyAre() {
@@ -878,6 +969,40 @@ public final class EdgesTest extends Checks {
         }
         x.pass(30, 1, 1, 0);
         return x;
+    }
+
+    /** AREAS of 9 to 5 and of PANS of 3, all GATES open. */
+    private static SaltRow flowing(int days, int sun, int wind, int moreDays, int moreSun, int moreWind) {
+        SaltRow x = new SaltRow();
+        for (int pond = 0; pond < 5; pond++) {
+            x.area(pond, 9 - pond);
+        }
+        for (int pond = 0; pond < 8; pond++) {
+            x.gate(pond, true);
+        }
+        x.pass(days, sun, wind, 0);
+        x.pass(moreDays, moreSun, moreWind, 0);
+        return x;
+    }
+
+    private static void p22BestGatesWithSaltOfBrineAndCrusts() {
+        Made made = () -> flowing(8, 9, 0, 12, 8, 7);
+        SaltRow x = made.make();
+        due("with all of it", () -> x.bestGates(4, 9, 9), bestByTrying(made, 4, 9, 9));
+        SaltRow y = made.make();
+        due("which is another set than with that of BRINE alone", () -> y.bestGates(4, 9, 9), 252);
+    }
+
+    private static void p22BestGatesOfOneDayMoreOrLess() {
+        SaltRow x = flowing(4, 4, 5, 5, 9, 3);
+        due("2 DAYS", () -> x.bestGates(2, 6, 2), 48);
+        due("3 DAYS", () -> x.bestGates(3, 6, 2), 112);
+        due("4 DAYS", () -> x.bestGates(4, 6, 2), 124);
+        due("SUN 5", () -> x.bestGates(3, 5, 2), 120);
+        due("SUN 7", () -> x.bestGates(3, 7, 2), 120);
+        due("WIND 1", () -> x.bestGates(3, 6, 1), 120);
+        due("WIND 3", () -> x.bestGates(3, 6, 3), 120);
+        due("by letting DAYS go by", () -> x.bestGates(3, 6, 2), bestByTrying(() -> flowing(4, 4, 5, 5, 9, 3), 3, 6, 2));
     }
 
     private static void p22BestGatesBeyondDay5000() {
@@ -1003,6 +1128,31 @@ public final class EdgesTest extends Checks {
         }
         x.harvest(5, true);
         x.wash(5);
+        due("its lowest 64", () -> x.digest(), withoutWrap(x).longValue());
+    }
+
+    private static void p25DigestOfGatesThatAreBest() {
+        SaltRow x = flowing(4, 4, 5, 5, 9, 3);
+        due("a set of its own", () -> x.bestGates(3, 6, 2), 112);
+        due("its lowest 64", () -> x.digest(), withoutWrap(x).longValue());
+    }
+
+    private static SaltRow largePan() {
+        SaltRow x = new SaltRow();
+        x.area(0, 9);
+        x.area(5, 9);
+        letSeaIn(x);
+        x.pump(0, 5, 180);
+        return x;
+    }
+
+    private static void p25DigestOfCrustsThatWouldFall() {
+        int[][] of = {{6, 3, 23}, {7, 2, 23}, {7, 3, 21}, {8, 3, 19}, {7, 4, 19}};
+        SaltRow x = largePan();
+        for (int[] a : of) {
+            due("SUN " + a[0] + ", WIND " + a[1], () -> x.crustIn(5, a[0], a[1]), a[2]);
+            due("by letting DAYS go by", () -> daysToCrust(largePan(), 5, a[0], a[1]), a[2]);
+        }
         due("its lowest 64", () -> x.digest(), withoutWrap(x).longValue());
     }
 

@@ -416,6 +416,14 @@ public final class TermsTest extends Checks {
         due("18 times 100, by 1000", () -> driedBy(20, 9, 9), 2);
     }
 
+    private static void dry04OneMoreThanAThousand() {
+        SaltRow x = twoPonds(1, 20, 1, 0);
+        x.pass(4, 1, 0, 0);
+        due("STRENGTH of 720, by 5 times 16", () -> x.ofPond(2, 1) * 100 + x.ofPond(2, 9), 1609);
+        x.pass(1, 9, 2, 0);
+        due("11 times 91, by 1000", () -> x.ofPond(2, 1), 14);
+    }
+
     private static void dry05HalfOfTheBrineAtMost() {
         due("none of 1", () -> driedBy(1, 9, 9), 0);
         due("1 of 2", () -> driedBy(2, 9, 9), 1);
