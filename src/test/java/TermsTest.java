@@ -853,6 +853,15 @@ public final class TermsTest extends Checks {
         due("the next DAY", () -> x.harvest(5, false), 200);
     }
 
+    private static void harvestAgainAddsToTheHeap() {
+        SaltRow x = withFamily(1, 12);
+        x.harvest(5, false);
+        due("180 and 36", () -> family(x, 0), "[180, 36, 83, 0, 180, 0]");
+        x.pass(1, 0, 0, 0);
+        x.harvest(5, false);
+        due("180 and 36 more", () -> family(x, 0), "[360, 72, 83, 0, 360, 0]");
+    }
+
     private static void flower1SunOf5AndOf6() {
         SaltRow x = withCrust(1);
         x.pass(1, 5, 2, 0);
