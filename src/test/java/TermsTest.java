@@ -54,9 +54,11 @@ public final class TermsTest extends Checks {
     }
 
     private static void row07LevelIsRoundedDown() {
-        for (int brine : new int[] {1, 8, 9, 17, 18, 80, 81}) {
-            SaltRow x = twoPonds(9, brine, 3, 0);
-            due("AREA 9, BRINE " + brine, () -> x.ofPond(2, 8), brine < 9 ? 0 : brine < 18 ? 1 : brine < 80 ? 2 : brine / 9);
+        int[] brine = {1, 8, 9, 17, 18, 80, 81};
+        int[] level = {0, 0, 1, 1, 2, 8, 9};
+        for (int k = 0; k < brine.length; k++) {
+            SaltRow x = twoPonds(9, brine[k], 3, 0);
+            due("AREA 9, BRINE " + brine[k], () -> x.ofPond(2, 8), level[k]);
         }
     }
 
